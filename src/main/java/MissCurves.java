@@ -436,7 +436,8 @@ public final class MissCurves {
         }
         replayer.load(shop.world.tenants[tenant]);
         int smaller = replayer.play(shop.chosenPolicy, 0);
-        for (int c = 0; c < PLACES; c++) {
+        // With a place for each different KEY none ever leaves: more room changes nothing.
+        for (int c = 0; c < PLACES && c < replayer.different; c++) {
             int larger = replayer.play(shop.chosenPolicy, c + 1);
             if (larger > smaller) {
                 return c;
@@ -914,10 +915,14 @@ public final class MissCurves {
         int mostAlike(int those, int size) {
             int most = 0;
             for (int t = 0; t < TENANTS; t++) {
-                int alike = 0;
-                for (int other = 0; other < TENANTS; other++) {
-                    boolean both = (those >>> t & those >>> other & 1) == 1;
-                    if (both && tenants[t].missesAt(size) == tenants[other].missesAt(size)) {
+                if ((those >>> t & 1) == 0) {
+                    continue;
+                }
+                int own = tenants[t].missesAt(size);
+                // Those ahead of it need no look: the first of alike ones counts all of them.
+                int alike = 1;
+                for (int other = t + 1; other < TENANTS; other++) {
+                    if ((those >>> other & 1) == 1 && tenants[other].missesAt(size) == own) {
                         alike++;
                     }
                 }
@@ -1636,8 +1641,9 @@ public final class MissCurves {
         private final long[] falls = new long[TENANTS * PLACES];
         private final long[] widths = new long[TENANTS * PLACES];
         private final int[] curves = new int[TENANTS * (PLACES + 1)];
-        /** By the first TENANT that takes part and what is left for those from it on. */
+        /** By the first TENANT that takes part and what is left for those from it on: MISSES, the first one's size. */
         private final int[] fewest = new int[(TENANTS + 1) * (MOST_SHARED + 1)];
+        private final int[] sizes = new int[TENANTS * (MOST_SHARED + 1)];
 
         void loadFalls(int tenant, Curve curve) {
             for (int c = 0; c < PLACES; c++) {
@@ -1680,39 +1686,40 @@ public final class MissCurves {
         /** The fewest MISSES together. */
         int dealBest(int size) {
             for (int t = TENANTS - 1; t >= 0; t--) {
-                for (int left = 0; left <= size; left++) {
-                    int c = bestFor(t, left);
-                    fewest[t * (MOST_SHARED + 1) + left] = togetherWith(t, left, c);
+                for (int left = t == 0 ? size : 0; left <= size; left++) {
+                    chooseSize(t, left);
                 }
             }
             int left = size;
             for (int t = 0; t < TENANTS; t++) {
-                dealt[t] = bestFor(t, left);
+                dealt[t] = sizes[t * (MOST_SHARED + 1) + left];
                 left -= dealt[t];
             }
             return fewest[size];
         }
 
         /** The least size for a TENANT by which it and those behind it have the fewest MISSES. */
-        private int bestFor(int tenant, int left) {
-            int best = 0;
+        private void chooseSize(int tenant, int left) {
+            int own = tenant * (PLACES + 1);
+            int behind = (tenant + 1) * (MOST_SHARED + 1) + left;
+            int size = 0;
+            int least = curves[own] + fewest[behind];
             for (int c = 1; c <= PLACES && c <= left; c++) {
-                if (togetherWith(tenant, left, c) < togetherWith(tenant, left, best)) {
-                    best = c;
+                int together = curves[own + c] + fewest[behind - c];
+                if (together < least) {
+                    least = together;
+                    size = c;
                 }
             }
-            return best;
-        }
-
-        private int togetherWith(int tenant, int left, int c) {
-            return curves[tenant * (PLACES + 1) + c] + fewest[(tenant + 1) * (MOST_SHARED + 1) + left - c];
+            fewest[tenant * (MOST_SHARED + 1) + left] = least;
+            sizes[tenant * (MOST_SHARED + 1) + left] = size;
         }
     }
 
     /** Reads a RECORD again; its different KEYS, 32 at most, are told as bits. */
     private static final class Replayer {
         private int length = 0;
-        private int different = 0;
+        int different = 0;
         /** Which of the different KEYS each READ is of, and the next READ of the same one. */
         private final int[] which = new int[RECORD_SIZE];
         private final int[] next = new int[RECORD_SIZE];
@@ -1773,7 +1780,8 @@ public final class MissCurves {
         int firstSpilt(int policy) {
             int first = length;
             play(policy, 1);
-            for (int c = 1; c < PLACES; c++) {
+            // With a place for each different KEY none ever leaves.
+            for (int c = 1; c < PLACES && c < different; c++) {
                 System.arraycopy(heldBehind, 0, heldBySmaller, 0, RECORD_SIZE);
                 play(policy, c + 1);
                 for (int i = 0; i < first; i++) {
