@@ -587,7 +587,9 @@ public final class MissCurves {
 
     private int refuse(int code) {
         statusCode = code;
-        refusals[-code]++;
+        if (code < 0 && code >= BAD_TEXT) {
+            refusals[-code]++;
+        }
         return code;
     }
 

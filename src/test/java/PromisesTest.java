@@ -373,9 +373,22 @@ public final class PromisesTest {
         due(9, lawFault("costs [1 if 1=1"));
         due(8, lawFault("bars if or"));
         due(0, lawFault("Costs 1"));
+        due(0, lawFault("barsz"));
+        due(0, lawFault("zbars"));
+        due(14, lawFault("bars if 1=1 or"));
+        due(15, lawFault("bars if 1=1 and"));
+        due(10, lawFault("bars if 1="));
+        due(11, lawFault("bars if (1="));
+        due(8, lawFault("costs 1+"));
+        due(8, lawFault("costs 1*"));
+        due(7, lawFault("costs ["));
         due(0, lawFault("read 1 by 1"));
         promise = 12;
         due(0, ordersFault("costs 1"));
+        due(9, ordersFault("loop 1 to"));
+        due(4, ordersFault("loop"));
+        due(9, ordersFault("read 1 by"));
+        due(-1, ordersFault("read 1 by 0 times 1"));
         due(-1, ordersFault("read 1 by 0 times 20 if 1=1"));
         due(18, ordersFault("read 1 by 0 times 21"));
         due(18, ordersFault("read 1 by 0 times 0"));
@@ -418,10 +431,31 @@ public final class PromisesTest {
         due(2, x.count(11));
         due(0, x.count(4));
         due(12, x.count(3));
+        // Each word tells of its own TENANT.
+        MissCurves w = new MissCurves();
+        w.loop(0, 0, 4);
+        w.loop(1, 0, 9);
+        w.loop(2, 0, 14);
+        w.loop(3, 0, 19);
+        for (int t = 0; t < 4; t++) {
+            w.drop(t, 0);
+        }
+        due(8, orders(w, "pass if cold 0<0;read cold 0*100 by 0;read cold 1*10 by 1;read cold 2+400 by 2;read cold 3+600 by 3;"
+            + "read deep 0+800 by 0;read deep 1+800 by 1;read deep 2+800 by 2;read deep 3+800 by 3"));
+        due(805, w.top(0, 1));
+        due(500, w.top(0, 2));
+        due(810, w.top(1, 1));
+        due(100, w.top(1, 2));
+        due(815, w.top(2, 1));
+        due(415, w.top(2, 2));
+        due(820, w.top(3, 1));
+        due(620, w.top(3, 2));
+        due(2, orders(w, "read 0 by 0;read time+latest+1 by 0 if not 0<latest"));
+        due(1, w.top(0, 1));
         promise = 14;
         due(-1, x.stopped());
         String[] bad = {"read 1000 by 0", "read 1 by 4", "read 0-1 by 0", "read 1/0 by 0", "read 1 by 1%0", "loop 5 to 4 by 0", "loop 5 to 37 by 0",
-            "loop 1 to 1/0 by 0", "loop 990 to 1000 by 0", "drop 77 by 0", "drop 1000 by 0", "pass times 20;read 9 by 9", "read 1000*1000*1000*2 by 0"};
+            "loop 1 to 1/0 by 0", "loop 0 to 1/0 by 0", "loop 1/0 to 5 by 0", "loop 990 to 1000 by 0", "drop 77 by 0", "drop 1000 by 0", "pass times 20;read 9 by 9", "read 1000*1000*1000*2 by 0"};
         for (String s : bad) {
             due(-3, orders(x, "read 7 by 3 times 20;pass;" + s));
             due(s.startsWith("pass") ? 3 : 2, x.stopped());
@@ -662,6 +696,68 @@ public final class PromisesTest {
         due(4, x.of(2, 0));
     }
 
+    /** All of a TENANT is brought back: the order of the SAMPLE, the RECORD, the last places of COSTS and PARTS. */
+    private static void undoesAll() {
+        promise = 20;
+        MissCurves x = new MissCurves();
+        x.loop(0, 0, 23);
+        x.read(0, 0);
+        due(1, x.of(0, 28));
+        due(25, x.misses(0, 23));
+        due(24, x.misses(0, 24));
+        int[] places = new int[24];
+        for (int k = 0; k < 24; k++) {
+            places[k] = x.key(0, k, 1);
+        }
+        int guessed = x.guess(0, 23);
+        x.loop(0, 1, 31);
+        x.pass();
+        due(12, x.of(0, 28));
+        due(3, x.undo());
+        due(1, x.undo());
+        for (int k = 0; k < 24; k++) {
+            due(places[k], x.key(0, k, 1));
+        }
+        due(guessed, x.guess(0, 23));
+        due(25, x.of(0, 3));
+        due(24, x.replay(0, 24));
+        due(25, x.replay(0, 23));
+        due(1, x.of(0, 28));
+        // The RECORD goes on from its first: of 0 .. 33 the first two went, 2 .. 4 stand twice then.
+        x.loop(1, 0, 31);
+        x.loop(1, 32, 33);
+        x.loop(1, 2, 4);
+        due(32, x.of(1, 3));
+        due(32, x.replay(1, 24));
+        law(x, "costs reads");
+        due(0, x.compare(0, 1, 1));
+        due(1, x.compare(0, 1, 2));
+        due(1, x.compare(0, 1, 5));
+        due(1, x.compare(0, 1, 33));
+        // Place 24 by the SAMPLE: LIMIT is 250, place 6 by it is 24.
+        MissCurves y = new MissCurves();
+        int[] keys = new int[7];
+        int[] hashes = {0, 1, 2, 3, 4, 5, 250};
+        for (int k = 0; k < 1000; k++) {
+            for (int i = 0; i < 7; i++) {
+                keys[i] = 617 * k % 1000 == hashes[i] ? k : keys[i];
+            }
+        }
+        for (int k : keys) {
+            y.read(0, k);
+        }
+        due(250, y.of(0, 2));
+        due(6, y.key(0, keys[0], 1));
+        y.read(0, keys[0]);
+        due(11, y.guess(0, 23));
+        due(7, y.guess(0, 24));
+        y.pass();
+        due(5, y.guess(0, 23));
+        due(3, y.guess(0, 24));
+        y.terms(3, 0);
+        due(0, y.guess(0, 23));
+    }
+
     private static void curves() {
         promise = 21;
         // Loops over 4 keys: reads 5 .. 12 are at place 4, then one at place 1, one at place 2.
@@ -719,6 +815,61 @@ public final class PromisesTest {
         promise = 22;
         due(5727, y.hull(0, 3));
         due(272, y.hull(0, 23));
+    }
+
+    /** Each size a BEND, and the longest reach of best shares. */
+    private static void farthest() {
+        MissCurves x = new MissCurves();
+        law(x, "costs 0; costs 30-far if far>0");
+        x.force(0);
+        x.loop(1, 0, 23);
+        int[] misses = new int[25];
+        for (int p = 1; p <= 24; p++) {
+            due(p, x.read(1, x.top(1, p)));
+        }
+        StringBuilder want = new StringBuilder();
+        for (int c = 24; c >= 0; c--) {
+            misses[c] = c == 24 ? 0 : misses[c + 1] + 29 - c;
+        }
+        promise = 23;
+        due(25, x.bend(1, -1));
+        for (int c = 0; c <= 24; c++) {
+            promise = 23;
+            due(c, x.bend(1, c));
+            promise = 22;
+            due(1000 * misses[c], x.hull(1, c));
+            want.append(c == 0 ? "" : ",").append(c).append(":").append(misses[c]);
+        }
+        promise = 24;
+        report(x, 1, want.append(".").toString());
+        promise = 29;
+        due(24, x.best(48, 1));
+        due(0, x.best(48, -1));
+        due(23, x.best(23, 1));
+        due(6, x.best(23, -1));
+        promise = 36;
+        MissCurves y = new MissCurves();
+        y.loop(0, 0, 23);
+        y.loop(1, 0, 24);
+        y.read(0, 0);
+        // At all sizes but 24 both have 25.
+        due(1, y.seen(0, 25));
+        due(3, y.canBe());
+        due(24, y.ask(0));
+        due(1, y.ask(1));
+        promise = 32;
+        MissCurves z = new MissCurves();
+        policy(z, "fifo");
+        z.loop(0, 0, 23);
+        z.read(0, 0);
+        due(-1, z.spilt(0));
+        z.read(0, 24);
+        due(25, z.spilt(0));
+        // The same with 24 and 25 places: those are not asked.
+        z.loop(1, 0, 24);
+        z.read(1, 0);
+        z.read(1, 25);
+        due(-1, z.spilt(1));
     }
 
     private static void samples() {
@@ -1103,6 +1254,24 @@ public final class PromisesTest {
         due(3, x.of(0, 0));
     }
 
+    /** An IMAGE keeps its own LAWS. */
+    private static void imagesOfLaws() {
+        promise = 42;
+        MissCurves x = new MissCurves();
+        x.image(0);
+        law(x, "costs 5");
+        law(x, "costs 15");
+        x.image(1);
+        x.back(0);
+        due(0, x.count(2));
+        due(-1, x.compare(0, 0, 0));
+        law(x, "costs 6");
+        due(-1, x.compare(1, 0, 0));
+        x.back(1);
+        due(5, x.compare(0, 0, 0));
+        due(15, x.compare(1, 0, 0));
+    }
+
     private static void counts() {
         promise = 43;
         MissCurves x = new MissCurves();
@@ -1197,7 +1366,9 @@ public final class PromisesTest {
         drops();
         passes();
         undoes();
+        undoesAll();
         curves();
+        farthest();
         samples();
         deals();
         replays();
@@ -1206,6 +1377,7 @@ public final class PromisesTest {
         compared();
         months();
         images();
+        imagesOfLaws();
         counts();
         System.out.println(asked + " answers, " + wrong + " not as due");
         if (wrong != 0) {
