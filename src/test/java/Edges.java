@@ -290,6 +290,9 @@ final class Edges {
                 seen.put("key(" + t + ", " + k + ", " + what + ")", (long) x.key(t, k, what));
             }
         }
+        for (int k = 0; k < 32; k++) {
+            seen.put("key(" + t + ", " + k + ", 1)", (long) x.key(t, k, 1));
+        }
     }
 
     private static void lookAtRest(MissCurves x, Map<String, Long> seen) {

@@ -72,6 +72,20 @@ public final class TermsEdgesTest {
         due(24, x.of(0, 4));
     }
 
+    /** TENANT 0 has these KEYS in its SAMPLE, and no others below 10. */
+    private static void sampled(MissCurves x, int... keys) {
+        due(keys.length, x.of(0, 1));
+        int places = 0;
+        for (int i = 0; i < keys.length; i++) {
+            due(i + 1, x.key(0, keys[i], 1));
+            places += i + 1;
+        }
+        for (int k = 0; k < 10; k++) {
+            places -= x.key(0, k, 1);
+        }
+        due(0, places);
+    }
+
     private static void sample() {
         sentence("a SAMPLE of KEYS, the one read last first, a LIMIT 1 .. 1,000 (1,000 at first)");
         MissCurves x = Edges.reads(0, 1, 2, 3);
@@ -83,6 +97,12 @@ public final class TermsEdgesTest {
         due(2, x.key(0, 3, 1));
         due(3, x.key(0, 2, 1));
         due(3, x.of(0, 1));
+        // The first, one between and the last of six are read again.
+        sampled(Edges.reads(0, 1, 2, 3, 4, 5, 6), 6, 5, 4, 3, 2, 1);
+        sampled(Edges.reads(0, 1, 2, 3, 4, 5, 6, 6), 6, 5, 4, 3, 2, 1);
+        sampled(Edges.reads(0, 1, 2, 3, 4, 5, 6, 5), 5, 6, 4, 3, 2, 1);
+        sampled(Edges.reads(0, 1, 2, 3, 4, 5, 6, 3), 3, 6, 5, 4, 2, 1);
+        sampled(Edges.reads(0, 1, 2, 3, 4, 5, 6, 1), 1, 6, 5, 4, 3, 2);
         for (int t = 0; t < 4; t++) {
             due(1000, new MissCurves().of(t, 2));
         }
@@ -188,6 +208,19 @@ public final class TermsEdgesTest {
                 due(9, x.misses(t, 0));
             }
         }
+        // PARTS are 0 exactly: 7 times 1,000 and 3 times 166,666 come to 506,998.
+        MissCurves y = limited(241, "costs 1");
+        y.read(0, Edges.keyOf(0));
+        y.terms(3, 0);
+        for (int hash : new int[] {0, 1, 2, 3, 4, 5, 6, 5, 5, 5}) {
+            y.read(0, Edges.keyOf(hash));
+        }
+        due(506, y.guess(0, 0));
+        due(506, y.guess(0, 24));
+        y.terms(3, 0);
+        y.read(0, 0);
+        due(1, y.guess(0, 0));
+        due(1, y.guess(0, 24));
         for (int what = 0; what < 3; what++) {
             MissCurves x = new MissCurves();
             x.loop(0, 0, 8);
@@ -433,6 +466,13 @@ public final class TermsEdgesTest {
         due(3, x.of(0, 3));
         due(3, x.of(0, 4));
         due(3, x.guess(0, 0));
+        MissCurves six = Edges.reads(0, 1, 2, 3, 4, 5, 6);
+        due(1, six.drop(0, 6));
+        sampled(six, 5, 4, 3, 2, 1);
+        due(5, six.drop(0, 1));
+        sampled(six, 5, 4, 3, 2);
+        due(2, six.drop(0, 4));
+        sampled(six, 5, 3, 2);
         // The last one of a full STACK, one that is not in the SAMPLE.
         MissCurves y = new MissCurves();
         y.loop(0, 0, 23);
@@ -472,6 +512,19 @@ public final class TermsEdgesTest {
         due(0, x.guess(0, 0));
         due(1, x.of(3, 0));
         due(2, x.of(3, 3));
+        // Place 24, of COSTS and of PARTS.
+        MissCurves far = Edges.under("costs 8");
+        far.loop(1, 0, 23);
+        far.read(1, 0);
+        due(100, far.pass());
+        due(4, far.of(1, 28));
+        due(96, far.of(1, 4));
+        MissCurves farther = limited(241, "costs 1");
+        farther.read(0, Edges.keyOf(0));
+        farther.pass();
+        due(5, farther.guess(0, 0));
+        due(5, farther.guess(0, 23));
+        due(3, farther.guess(0, 24));
         MissCurves y = new MissCurves();
         y.terms(0, 998);
         due(0, y.pass());
@@ -526,6 +579,20 @@ public final class TermsEdgesTest {
         due(1, x.bend(0, 1));
         due(2, x.bend(0, 2));
         due(24, x.bend(0, 3));
+        // Falls of 5, 1, 2 at the first three places: 2 is above the line from 1 to 3.
+        MissCurves w = Edges.under("costs 5 if far=1;costs 1 if far=2;costs 2 if far=3");
+        w.loop(0, 1, 3);
+        w.read(0, 3);
+        w.read(0, 2);
+        w.read(0, 1);
+        due(11, w.misses(0, 0));
+        due(6, w.misses(0, 1));
+        due(5, w.misses(0, 2));
+        due(3, w.misses(0, 3));
+        due(4, w.bend(0, -1));
+        due(1, w.bend(0, 1));
+        due(3, w.bend(0, 2));
+        due(4500, w.hull(0, 2));
         // A fall at 24 alone: a straight line, 0 and 24.
         MissCurves y = new MissCurves();
         y.loop(1, 0, 23);
@@ -602,11 +669,9 @@ public final class TermsEdgesTest {
         // 16,500,000 PARTS for each read: 693 thousand and 121,212 reads bring 2,000,000,000 at least.
         MissCurves y = limited(6, "costs 99");
         String many = "read 0 by 0 times 20;".repeat(11) + "read 0 by 0 times 20";
-        int reads = 0;
-        while (reads < 121200) {
-            reads += Edges.orders(y, many);
+        for (int i = 0; i < 505; i++) {
+            due(240, Edges.orders(y, many));
         }
-        due(121200, reads);
         due(1999800693, y.guess(0, 24));
         Edges.orders(y, "read 0 by 0 times 12");
         due(1999998693, y.guess(0, 24));
@@ -648,6 +713,24 @@ public final class TermsEdgesTest {
         due(1, x.share(1, 3));
         due(-1, x.share(-1, 3));
         due(-1, x.share(49, 3));
+        // TENANT 1 falls by 3, then by 3 over 3 places, TENANT 2 by 2 over 3 places: 1, 1 1 1, 2 2 2.
+        MissCurves falls = Edges.under("costs 3 if far>0");
+        for (int k : new int[] {1, 2, 3, 4, 4, 1}) {
+            falls.read(1, k);
+        }
+        Edges.law(falls, "costs 2 if far>0");
+        falls.force(1);
+        for (int k : new int[] {1, 2, 3, 1}) {
+            falls.read(2, k);
+        }
+        due(4, falls.bend(1, -1));
+        due(4, falls.bend(1, 2));
+        int[][] dealt = {{0, 0, 0, 0}, {0, 1, 0, 0}, {0, 2, 0, 0}, {0, 3, 0, 0}, {0, 4, 0, 0}, {0, 4, 1, 0}, {0, 4, 2, 0}, {0, 4, 3, 0}, {1, 4, 3, 0}};
+        for (int size = 0; size < dealt.length; size++) {
+            for (int t = 0; t < 4; t++) {
+                due(dealt[size][t], falls.share(size, t));
+            }
+        }
         sentence("24 at most for each; the lowest of alike ones");
         // 3 gets one first; all else is alike: 0 gets 24, then 1 does.
         due(24, x.share(25, 0));
@@ -709,6 +792,21 @@ public final class TermsEdgesTest {
         }
         due(-1, x.best(49, -1));
         due(-1, x.best(-1, -1));
+        // TENANT 0 falls by 5, TENANT 3 by 2 and by 1: of two places each gets one.
+        MissCurves y = Edges.under("costs 5 if tenant=0;costs 2 if tenant=3 and far=1");
+        y.read(0, 1);
+        y.read(0, 1);
+        for (int k : new int[] {1, 2, 2, 1}) {
+            y.read(3, k);
+        }
+        int[][] dealt = {{0, 0, 15}, {1, 0, 10}, {1, 1, 8}, {1, 2, 7}, {1, 2, 7}};
+        for (int size = 0; size < dealt.length; size++) {
+            due(dealt[size][0], y.best(size, 0));
+            due(0, y.best(size, 1));
+            due(0, y.best(size, 2));
+            due(dealt[size][1], y.best(size, 3));
+            due(dealt[size][2], y.best(size, -1));
+        }
         due(0, new MissCurves().best(48, -1));
         due(0, new MissCurves().best(48, 3));
     }
@@ -758,6 +856,34 @@ public final class TermsEdgesTest {
         due(4, replayed("min", 2, 1, 2, 3, 1, 2));
         due(3, replayed("min", 2, 1, 2, 3, 1, 3));
         due(3, replayed("min", 2, 1, 2, 3, 3, 1));
+        due(3, replayed("min", 2, 1, 2, 3, 2));
+        due(3, replayed("min", 2, 2, 1, 3, 1));
+    }
+
+    private static void replaysAgain() {
+        sentence("the RECORD is read from its first, with nothing held");
+        // One object asked again and again answers as new ones do: nothing stays of the RECORDS that were read before.
+        int[][] records = {{1, 1, 1, 2, 3, 1, 2, 4}, {20, 21, 22, 20, 23, 21}, {}, {30, 31, 30, 32, 31, 33, 30, 34, 35, 30, 36, 31}};
+        String[] names = {"lfu", "min", "fifo", "mru", "lru"};
+        MissCurves x = new MissCurves();
+        for (int t = 0; t < 4; t++) {
+            for (int k : records[t]) {
+                x.read(t, k);
+            }
+        }
+        x.loop(2, 500, 531);
+        for (String name : names) {
+            Edges.policy(x, name);
+            for (int c = 4; c >= 0; c--) {
+                due(32, x.replay(2, c));
+                for (int t = 0; t < 4; t++) {
+                    if (t != 2) {
+                        due(replayed(name, c, records[t]), x.replay(t, c));
+                    }
+                }
+            }
+        }
+        due(records[0].length, x.replay(0, 0));
     }
 
     private static void lowestOfAlike() {
@@ -790,6 +916,11 @@ public final class TermsEdgesTest {
         Edges.policy(x, "fifo");
         due(6, x.spilt(0));
         due(-1, x.spilt(1));
+        // With 2 places and with 3 alone: 0 2, then 0 3 are held with 2, with 3 places 0 1 2, then 1 2 3.
+        MissCurves two = Edges.reads(0, 0, 1, 2, 0, 3);
+        Edges.policy(two, "fifo");
+        due(4, two.spilt(0));
+        due(-1, two.odd(0));
         // With 23 places and with 24 alone: 0 is held with 23 places behind its second read, not with 24 when 24 comes.
         MissCurves z = new MissCurves();
         Edges.policy(z, "fifo");
@@ -815,6 +946,9 @@ public final class TermsEdgesTest {
         due(3, x.canBe());
         x.seen(24, 2);
         due(2, x.canBe());
+        // TENANT 0, which has as many at size 0, is none of these.
+        due(0, x.ask(0));
+        due(1, x.ask(1));
         x.seen(24, 1);
         due(0, x.canBe());
         sentence("the size 0 .. 24 at which of these the most that have alike MISSES are as few as can be; the lowest");
@@ -1025,53 +1159,93 @@ public final class TermsEdgesTest {
             due(2, x.law());
         }
         sentence("BACK to one all that it keeps is as it was then (IMAGES stay)");
-        Edges.Setup kept = x -> {
-            Edges.rich(x);
-            x.image(1);
-            x.image(0);
-        };
-        Map<String, Long> want = Edges.look(x -> {
-            kept.on(x);
-            x.back(1);
-        });
-        Map<String, Long> got = Edges.look(x -> {
-            kept.on(x);
-            changeAll(x);
-            x.back(1);
-        });
-        for (Map.Entry<String, Long> e : want.entrySet()) {
-            if (!e.getKey().matches("drawn.*|sign.*|count\\([5-9]\\)")) {
-                due(e.getValue(), got.get(e.getKey()));
+        for (int k = 0; k < 2; k++) {
+            int one = k;
+            Map<String, Long> want = Edges.look(x -> {
+                Edges.rich(x);
+                Edges.policy(x, "lfu");
+                x.terms(0, 5);
+                x.end(0);
+                x.image(one);
+            });
+            Map<String, Long> got = Edges.look(x -> {
+                Edges.rich(x);
+                x.terms(0, 5);
+                x.image(one);
+                changeAll(x);
+                x.image(1 - one);
+                x.back(one);
+                x.image(1 - one);
+                if (one == 1) {
+                    x.back(0);
+                }
+            });
+            for (Map.Entry<String, Long> e : want.entrySet()) {
+                if (!e.getKey().matches("drawn.*|sign.*|count\\([5-9]\\)|back\\(" + (1 - k) + "\\).*|row\\(\\), blanks.*|blanks.*|stopped.*")) {
+                    due(e.getValue(), got.get(e.getKey()));
+                }
             }
         }
     }
 
-    /** Changes all that IMAGES keep; TAPE, FAULT, BLANKS, the REPORT and where ORDERS stopped are as rich() leaves them. */
+    /** Changes all that IMAGES keep; the TAPE is empty then, and there is no FAULT. */
     private static void changeAll(MissCurves x) {
-        Edges.law(x, "costs 9");
-        x.force(2);
-        Edges.policy(x, "min");
+        Edges.tell(x, "\u0004\u0000\u0001\u0063");
+        x.row();
+        x.force(1);
         for (int t = 0; t < 4; t++) {
             x.loop(t, 600, 631);
+            x.loop(t, 0, 9);
+            x.read(t, 0);
         }
         x.pass();
-        x.seen(3, 4);
         x.forget();
-        x.terms(0, 1);
-        x.terms(1, 1);
-        x.terms(2, 1);
-        x.terms(3, 1);
+        for (int i = 0; i < 6; i++) {
+            x.seen(i, 4);
+        }
+        for (int what = 0; what < 4; what++) {
+            x.terms(what, 2);
+        }
+        x.read(0, 3);
         x.months(9, 9);
-        x.image(0);
-        x.back(1);
-        x.read(3, 3);
-        Edges.policy(x, "fifo");
-        x.force(1);
-        x.image(0);
-        Edges.rich(x);
-        x.back(1);
-        x.image(0);
-        x.read(1, 1);
+        x.report(1);
+        Edges.orders(x, "read 4 by 9");
+        for (int i = 2; i < 6; i++) {
+            Edges.law(x, "costs 9");
+        }
+        Edges.policy(x, "min");
+    }
+
+    private static void allIsKept() {
+        sentence("BACK to one all that it keeps is as it was then");
+        // PARTS and COSTS of place 24, the last KEY of a full SAMPLE: by IMAGES, by what is undone, by ORDERS that can't be.
+        for (int way = 0; way < 3; way++) {
+            MissCurves x = limited(241, "costs 1");
+            x.image(0);
+            if (way == 0) {
+                change(x);
+                x.back(0);
+            } else if (way == 1) {
+                x.read(0, Edges.keyOf(0));
+                x.loop(0, 0, 9);
+                x.undo();
+                x.undo();
+            } else {
+                Edges.orders(x, "read " + Edges.keyOf(0) + " by 0;loop 0 to 9 by 0;read 1 by 9");
+            }
+            due(7, x.guess(0, 0));
+            due(7, x.guess(0, 24));
+            for (int hash = 0; hash < 6; hash++) {
+                due(6 - hash, x.key(0, Edges.keyOf(hash), 1));
+            }
+            due(241, x.of(0, 2));
+            due(7, x.of(0, 0));
+        }
+    }
+
+    private static void change(MissCurves x) {
+        x.read(0, Edges.keyOf(0));
+        x.loop(0, 0, 9);
     }
 
     public static void main(String[] args) {
@@ -1104,6 +1278,7 @@ public final class TermsEdgesTest {
         shares();
         best();
         replays();
+        replaysAgain();
         lowestOfAlike();
         oddAndSpilt();
         whichOne();
@@ -1113,6 +1288,7 @@ public final class TermsEdgesTest {
         monthsEnd();
         rows();
         images();
+        allIsKept();
         System.exit(edges.end("Terms I, III, IV"));
     }
 }

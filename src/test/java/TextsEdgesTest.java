@@ -257,6 +257,21 @@ public final class TextsEdgesTest {
         edges.refusedOrders(4, "read");
         edges.refusedOrders(9, "read 1 by");
         edges.refusedOrders(0, "bars");
+        // A TEXT that ends, a CLAUSE that ends too early, at each place where more must come.
+        String[] laws = {"costs", "costs 1+", "costs 1*", "costs [", "costs [1", "bars if", "bars if not", "bars if (", "bars if (1=1", "bars if 1", "bars if 1<",
+            "bars if 1=1 or", "bars if 1=1 and", "bars if (1=1 or", "costs [1+", "bars if [1"};
+        for (String law : laws) {
+            due(law.length(), lawFault(law));
+            due(law.length() + 2, lawFault(law + "  "));
+            due(law.length(), lawFault(law + ";bars"));
+        }
+        String[] orders = {"read", "read 1", "read 1 by", "loop", "loop 1", "loop 1 to", "loop 1 to 2", "loop 1 to 2 by", "drop", "drop 1", "drop 1 by", "pass times",
+            "pass if", "pass if 1", "pass if 1=1 or", "pass if 1=1 and", "read cold", "read deep", "read 1+", "read 1 by 0 times", "pass if 1="};
+        for (String order : orders) {
+            due(order.length(), ordersFault(order));
+            due(order.length() + 1, ordersFault(order + " "));
+            due(order.length(), ordersFault(order + ";pass"));
+        }
         due(8, lawFault("costs 1 costs 2"));
         due(9, lawFault("costs 1  ,"));
         due(8, lawFault("costs 1 then"));
@@ -339,6 +354,23 @@ public final class TextsEdgesTest {
         due(6, x.count(2));
         for (int i = 0; i < 6; i++) {
             due(10 + i, x.compare(i, 0, 0));
+        }
+        // Each is itself, whatever was told ahead of it.
+        MissCurves z = new MissCurves();
+        Edges.law(z, "bars;bars if 1=1;bars" + ";bars".repeat(9));
+        Edges.law(z, "costs 3;costs 4 if key=7;costs 5 if key=8");
+        Edges.law(z, "bars if key=9");
+        Edges.orders(z, "pass times 9");
+        Edges.law(z, "costs 6");
+        due(3, z.compare(1, 0, 9));
+        due(4, z.compare(1, 0, 7));
+        due(5, z.compare(1, 0, 8));
+        due(6, z.compare(3, 0, 9));
+        int[] barred = {1, 0, 0, 0};
+        for (int i = 0; i < 4; i++) {
+            z.force(i);
+            due(barred[i], z.key(0, 7, 4));
+            due(i == 0 || i == 2 ? 1 : 0, z.key(0, 9, 4));
         }
         Edges.Setup full = y -> {
             Edges.rich(y);
