@@ -81,7 +81,8 @@ public final class MissCurves {
     private static final int ORDER_WORDS = 11;
 
     private static final long BEYOND = 1000000000L;
-    private static final long BROKEN = Long.MIN_VALUE;
+    /** No SUM can be this. */
+    private static final long BROKEN = -2 * BEYOND;
     private static final long MOST_GUESSED = 2000000000L;
     private static final long WHOLE_CHANCE = 1000000000000L;
     private static final int MOST_FEW = 20;

@@ -162,7 +162,8 @@ final class Edges {
         x.drop(1, 12);
         x.pass();
         x.read(0, 5);
-        x.seen(24, 7);
+        // So is TENANT 0 at the end: IT CAN BE shows whether SEEN is another.
+        x.seen(24, 42);
         x.months(7, 40);
         x.report(0);
         orders(x, "pass; read 1000 by 0");

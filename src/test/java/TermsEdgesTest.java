@@ -666,7 +666,8 @@ public final class TermsEdgesTest {
         due(7, x.guess(0, 24));
         due(-1, x.guess(0, 25));
         due(-1, x.guess(0, -1));
-        // 16,500,000 PARTS for each read: 693 thousand and 121,212 reads bring 2,000,000,000 at least.
+        // 16,500,000 PARTS for each read: 693 thousand and 121,212 reads bring 2,000,000,000 at least. These take more calls than 512:
+        // within them no GUESS comes so far.
         MissCurves y = limited(6, "costs 99");
         String many = "read 0 by 0 times 20;".repeat(11) + "read 0 by 0 times 20";
         for (int i = 0; i < 505; i++) {
@@ -1243,6 +1244,34 @@ public final class TermsEdgesTest {
         }
     }
 
+    private static void seenIsKept() {
+        sentence("IMAGES 0, 1 keep all but the TAPE");
+        // Each of the six that were SEEN alone tells that it is TENANT 0: 2 1 1 .. are its MISSES, 2 2 2 .. those of TENANT 1.
+        for (int one = 0; one < 6; one++) {
+            MissCurves x = Edges.reads(0, 1, 1);
+            x.read(1, 1);
+            x.read(1, 2);
+            for (int i = 0; i < 6; i++) {
+                due(i + 1, i == one ? x.seen(24, 1) : x.seen(0, 2));
+            }
+            due(1, x.canBe());
+            x.image(one % 2);
+            due(6, x.forget());
+            x.image(1 - one % 2);
+            for (int i = 0; i < 6; i++) {
+                x.seen(1, 77);
+            }
+            due(0, x.canBe());
+            x.back(1 - one % 2);
+            due(0, x.count(1));
+            due(15, x.canBe());
+            x.seen(1, 77);
+            x.back(one % 2);
+            due(6, x.count(1));
+            due(1, x.canBe());
+        }
+    }
+
     private static void change(MissCurves x) {
         x.read(0, Edges.keyOf(0));
         x.loop(0, 0, 9);
@@ -1289,6 +1318,7 @@ public final class TermsEdgesTest {
         rows();
         images();
         allIsKept();
+        seenIsKept();
         System.exit(edges.end("Terms I, III, IV"));
     }
 }
