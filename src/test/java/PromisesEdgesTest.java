@@ -112,6 +112,16 @@ public final class PromisesEdgesTest {
         due(0, x.key(3, 1, 4));
         due(1, x.key(3, 999, 4));
         due(10, x.key(3, 999, 3));
+        // What is asked is asked of that TENANT, not of another one.
+        MissCurves own = Edges.under("costs 20+tenant;bars if tenant=2 or far=1");
+        own.read(1, 5);
+        for (int t = 0; t < 4; t++) {
+            due(20 + t, own.key(t, 5, 3));
+            due(t == 1 || t == 2 ? 1 : 0, own.key(t, 5, 4));
+            due(t == 2 ? 1 : 0, own.key(t, 6, 4));
+            due(t == 1 ? 1 : 0, own.key(t, 5, 0));
+            due(t == 1 ? 1 : 0, own.key(t, 5, 1));
+        }
         for (int what : new int[] {-1, 5, LEAST, MOST}) {
             edges.none(y -> y.key(0, 5, what));
         }

@@ -353,6 +353,44 @@ public final class TermsEdgesTest {
         due(1, y.of(0, 1));
     }
 
+    /** With each SALT it is the HASH by it that tells which KEYS are SAMPLED and which leave. */
+    private static void saltedSample() {
+        sentence("HASH of a KEY: 617 times the KEY and SALT, modulo 1,000. A KEY is SAMPLED, if its HASH is below LIMIT");
+        for (int salt : new int[] {0, 1, 383, 500, 999}) {
+            MissCurves x = new MissCurves();
+            x.terms(3, salt);
+            int[] keys = new int[1000];
+            for (int hash = 0; hash < 1000; hash++) {
+                keys[hash] = Edges.keyOf((hash - salt + 1000) % 1000);
+                due(hash, hash % 100 == 0 ? x.key(0, keys[hash], 2) : hash);
+            }
+            // The one read first, which is the last of the SAMPLE, has the greatest HASH.
+            for (int hash : new int[] {700, 100, 600, 200, 500, 300, 400}) {
+                x.read(0, keys[hash]);
+            }
+            due(700, x.of(0, 2));
+            due(6, x.of(0, 1));
+            due(0, x.key(0, keys[700], 1));
+            due(1, x.key(0, keys[400], 1));
+            due(6, x.key(0, keys[100], 1));
+            x.read(0, keys[700]);
+            x.read(0, keys[999]);
+            due(700, x.of(0, 2));
+            due(1, x.key(0, keys[400], 1));
+            // The greatest of them is the one that comes.
+            x.read(0, keys[699]);
+            due(699, x.of(0, 2));
+            due(0, x.key(0, keys[699], 1));
+            // The greatest of them is one between.
+            x.read(0, keys[0]);
+            due(600, x.of(0, 2));
+            due(6, x.of(0, 1));
+            due(0, x.key(0, keys[600], 1));
+            due(1, x.key(0, keys[0], 1));
+            due(6, x.key(0, keys[100], 1));
+        }
+    }
+
     private static void samplePlaces() {
         sentence("(farther, if that is more than 24 or it is not there)");
         int last = Edges.keyOf(0);
@@ -378,6 +416,11 @@ public final class TermsEdgesTest {
         w.read(0, Edges.keyOf(5));
         due(9, w.guess(0, 1));
         due(7, w.guess(0, 2));
+        // 1,000 by 143 is 6.99: place 6, not 7; 1,000,000 by 143 is 6,993.
+        MissCurves u = limited(143, "costs 1");
+        u.read(0, Edges.keyOf(5));
+        due(13, u.guess(0, 5));
+        due(7, u.guess(0, 6));
         MissCurves v = limited(333, "costs 1");
         v.read(0, Edges.keyOf(5));
         due(10, v.guess(0, 2));
@@ -593,6 +636,22 @@ public final class TermsEdgesTest {
         due(1, w.bend(0, 1));
         due(3, w.bend(0, 2));
         due(4500, w.hull(0, 2));
+        // Far from 0: falls of 10 up to 5, then of 1 and of 3: 6 is above the line from 5 to 7.
+        MissCurves far = Edges.under("costs 0;costs 10 if far>0 and far<6;costs 1 if far=6;costs 3 if far=7");
+        far.loop(0, 0, 6);
+        for (int place = 7; place >= 1; place--) {
+            far.read(0, far.top(0, place));
+        }
+        due(54, far.misses(0, 0));
+        due(4, far.misses(0, 5));
+        due(3, far.misses(0, 6));
+        due(0, far.misses(0, 7));
+        int[] sizes = {0, 5, 7, 24};
+        due(sizes.length, far.bend(0, -1));
+        for (int i = 0; i < sizes.length; i++) {
+            due(sizes[i], far.bend(0, i));
+        }
+        due(2000, far.hull(0, 6));
         // A fall at 24 alone: a straight line, 0 and 24.
         MissCurves y = new MissCurves();
         y.loop(1, 0, 23);
@@ -666,6 +725,14 @@ public final class TermsEdgesTest {
         due(7, x.guess(0, 24));
         due(-1, x.guess(0, 25));
         due(-1, x.guess(0, -1));
+        // 7 times 1,000 and 3 times 1,333 PARTS come to 10,999, one more to 12,332.
+        MissCurves z = limited(750, "costs 1");
+        for (int i = 0; i < 3; i++) {
+            z.read(0, Edges.keyOf(5));
+        }
+        due(10, z.guess(0, 0));
+        z.read(0, Edges.keyOf(5));
+        due(12, z.guess(0, 0));
         // 16,500,000 PARTS for each read: 693 thousand and 121,212 reads bring 2,000,000,000 at least. These take more calls than 512:
         // within them no GUESS comes so far.
         MissCurves y = limited(6, "costs 99");
@@ -732,6 +799,28 @@ public final class TermsEdgesTest {
                 due(dealt[size][t], falls.share(size, t));
             }
         }
+        // TENANT 1 falls by 5 and by 1, TENANT 2 by 3: 1, 2, 1.
+        MissCurves other = Edges.under("costs 0;costs 5 if tenant=1 and far=1;costs 1 if tenant=1 and far=2;costs 3 if tenant=2 and far=1");
+        for (int k : new int[] {1, 2, 2, 1}) {
+            other.read(1, k);
+        }
+        other.read(2, 1);
+        other.read(2, 1);
+        int[][] gets = {{0, 0, 0}, {0, 1, 0}, {0, 1, 1}, {0, 2, 1}, {1, 2, 1}};
+        for (int size = 0; size < gets.length; size++) {
+            for (int t = 0; t < 3; t++) {
+                due(gets[size][t], other.share(size, t));
+            }
+        }
+        // TENANT 3 falls up to its 24th place.
+        MissCurves last = new MissCurves();
+        last.loop(3, 0, 23);
+        last.read(3, 0);
+        due(23, last.share(23, 3));
+        due(24, last.share(24, 3));
+        due(0, last.share(24, 0));
+        due(24, last.share(25, 3));
+        due(1, last.share(25, 0));
         sentence("24 at most for each; the lowest of alike ones");
         // 3 gets one first; all else is alike: 0 gets 24, then 1 does.
         due(24, x.share(25, 0));
@@ -843,6 +932,9 @@ public final class TermsEdgesTest {
         sentence("by mru that read latest");
         due(3, replayed("mru", 2, 1, 2, 1, 3, 2));
         due(4, replayed("mru", 2, 1, 2, 1, 3, 1));
+        due(5, replayed("mru", 3, 1, 2, 3, 2, 4, 2));
+        due(4, replayed("mru", 3, 1, 2, 3, 2, 4, 3));
+        due(4, replayed("mru", 3, 1, 2, 3, 2, 4, 1));
         sentence("by fifo that held longest");
         due(4, replayed("fifo", 2, 1, 2, 1, 3, 1));
         due(3, replayed("fifo", 2, 1, 2, 1, 3, 2));
@@ -853,12 +945,24 @@ public final class TermsEdgesTest {
         // 2 was read twice when 3 comes the second time, held or not: 1, read once and longest ago, leaves ahead of it.
         due(4, replayed("lfu", 2, 2, 1, 3, 2, 2));
         due(5, replayed("lfu", 2, 2, 1, 3, 2, 4, 2));
+        // 2, read twice, leaves ahead of 1 and 3, read three times, though 3 was read longer ago.
+        due(4, replayed("lfu", 3, 1, 1, 1, 2, 3, 3, 3, 2, 4, 3));
+        due(5, replayed("lfu", 3, 1, 1, 1, 2, 3, 3, 3, 2, 4, 2));
+        // 2, read once, leaves ahead of 3, read twice, and 1, read three times.
+        due(4, replayed("lfu", 3, 1, 1, 1, 2, 3, 3, 4, 3));
+        due(5, replayed("lfu", 3, 1, 1, 1, 2, 3, 3, 4, 2));
         sentence("by min that read again latest of all (one that is never again later than all others; of alike ones the lowest KEY)");
         due(4, replayed("min", 2, 1, 2, 3, 1, 2));
         due(3, replayed("min", 2, 1, 2, 3, 1, 3));
         due(3, replayed("min", 2, 1, 2, 3, 3, 1));
         due(3, replayed("min", 2, 1, 2, 3, 2));
         due(3, replayed("min", 2, 2, 1, 3, 1));
+        // 1 is read again by the last READ of a full RECORD, 2 never again: 2 leaves, though 1 is lower.
+        MissCurves full = Edges.reads(0, 1, 2);
+        Edges.orders(full, "read 3 by 0 times 20;read 3 by 0 times 9;read 1 by 0");
+        Edges.policy(full, "min");
+        due(32, full.of(0, 3));
+        due(3, full.replay(0, 2));
     }
 
     private static void replaysAgain() {
@@ -922,6 +1026,12 @@ public final class TermsEdgesTest {
         Edges.policy(two, "fifo");
         due(4, two.spilt(0));
         due(-1, two.odd(0));
+        // The last READ of a full RECORD.
+        MissCurves full = Edges.reads(0, 0, 1);
+        Edges.orders(full, "read 1 by 0 times 20;read 1 by 0 times 7;read 2 by 0;read 0 by 0;read 3 by 0");
+        Edges.policy(full, "fifo");
+        due(32, full.of(0, 3));
+        due(31, full.spilt(0));
         // With 23 places and with 24 alone: 0 is held with 23 places behind its second read, not with 24 when 24 comes.
         MissCurves z = new MissCurves();
         Edges.policy(z, "fifo");
@@ -972,6 +1082,25 @@ public final class TermsEdgesTest {
         due(3, y.canBe());
         due(24, y.ask(0));
         due(1, y.ask(1));
+        MissCurves turned = new MissCurves();
+        for (int t = 0; t < 2; t++) {
+            turned.loop(t, 0, 23);
+        }
+        turned.read(0, 24);
+        turned.read(1, 0);
+        turned.seen(0, 25);
+        due(3, turned.canBe());
+        due(24, turned.ask(0));
+        due(1, turned.ask(1));
+        // MISSES 5 3 2 and 5 3 3: they differ from size 2 on.
+        MissCurves z = Edges.reads(0, 1, 2, 2, 2, 1);
+        for (int k : new int[] {1, 2, 3, 3, 3}) {
+            z.read(1, k);
+        }
+        z.seen(0, 5);
+        due(3, z.canBe());
+        due(2, z.ask(0));
+        due(1, z.ask(1));
     }
 
     private static void few() {
@@ -1244,6 +1373,32 @@ public final class TermsEdgesTest {
         }
     }
 
+    private static void lawsAreKept() {
+        sentence("IMAGES 0, 1 keep all but the TAPE");
+        MissCurves x = new MissCurves();
+        x.image(1);
+        for (int i = 0; i < 6; i++) {
+            Edges.law(x, "costs " + (10 + i));
+        }
+        x.force(5);
+        x.image(0);
+        x.back(1);
+        due(0, x.count(2));
+        due(-1, x.count(10));
+        for (int i = 0; i < 6; i++) {
+            due(i, Edges.law(x, "costs " + (50 + i)));
+            due(50 + i, x.compare(i, 0, 0));
+        }
+        x.force(0);
+        x.back(0);
+        due(6, x.count(2));
+        due(5, x.count(10));
+        due(15, x.key(0, 0, 3));
+        for (int i = 0; i < 6; i++) {
+            due(10 + i, x.compare(i, 0, 0));
+        }
+    }
+
     private static void seenIsKept() {
         sentence("IMAGES 0, 1 keep all but the TAPE");
         // Each of the six that were SEEN alone tells that it is TENANT 0: 2 1 1 .. are its MISSES, 2 2 2 .. those of TENANT 1.
@@ -1292,6 +1447,7 @@ public final class TermsEdgesTest {
         coldOrBarred();
         hashes();
         belowLimit();
+        saltedSample();
         samplePlaces();
         partsOfCost();
         limitFalls();
@@ -1318,6 +1474,7 @@ public final class TermsEdgesTest {
         rows();
         images();
         allIsKept();
+        lawsAreKept();
         seenIsKept();
         System.exit(edges.end("Terms I, III, IV"));
     }

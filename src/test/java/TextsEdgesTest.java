@@ -235,6 +235,25 @@ public final class TextsEdgesTest {
         due(-1, lawFault("bars if " + "(".repeat(7) + "1=[1]" + ")".repeat(7)));
         due(18, lawFault("bars if " + "(".repeat(8) + "1=[1]" + ")".repeat(8)));
         due(20, lawFault("bars if (not " + "(".repeat(7) + "[1]=1" + ")".repeat(8)));
+        // Behind what joins two of them an 8th may come, no 9th.
+        for (char sign : "+-*/%".toCharArray()) {
+            due(-1, lawFault("costs " + "[".repeat(7) + "1" + sign + "[1]" + "]".repeat(7)));
+            due(-1, lawFault("costs " + "[".repeat(7) + "1" + sign + "1" + sign + "[1]" + "]".repeat(7)));
+            due(16, lawFault("costs " + "[".repeat(8) + "1" + sign + "[1]" + "]".repeat(8)));
+            due(18, lawFault("costs " + "[".repeat(8) + "1" + sign + "1" + sign + "[1]" + "]".repeat(8)));
+        }
+        for (char sign : "<>=".toCharArray()) {
+            due(-1, lawFault("bars if " + "(".repeat(7) + "1" + sign + "[1]" + ")".repeat(7)));
+            due(18, lawFault("bars if " + "(".repeat(8) + "1" + sign + "[1]" + ")".repeat(8)));
+        }
+        for (String word : new String[] {"or", "and"}) {
+            String joined = "1=1" + word;
+            due(-1, lawFault("bars if " + "(".repeat(7) + joined + "(1=1)" + ")".repeat(7)));
+            due(-1, lawFault("bars if " + "(".repeat(7) + joined + joined + "(1=1)" + ")".repeat(7)));
+            due(16 + joined.length(), lawFault("bars if " + "(".repeat(8) + joined + "(1=1)" + ")".repeat(8)));
+            due(16 + 2 * joined.length(), lawFault("bars if " + "(".repeat(8) + joined + joined + "(1=1)" + ")".repeat(8)));
+            due(16 + joined.length(), lawFault("bars if " + "(".repeat(8) + joined + "[1]=1" + ")".repeat(8)));
+        }
         // Side by side there may be more.
         due(20, cost("costs [1]" + "+[1]".repeat(19)));
         due(-1, lawFault("bars if (1=1)" + " or (1=1)".repeat(19)));
@@ -275,6 +294,39 @@ public final class TextsEdgesTest {
         due(8, lawFault("costs 1 costs 2"));
         due(9, lawFault("costs 1  ,"));
         due(8, lawFault("costs 1 then"));
+    }
+
+    /** Each letter of each word of a TEXT that can be is another one, or none; each word has one letter more: FAULT at that word. */
+    private static void misspelt(String text, boolean isLaw) {
+        due(-1, isLaw ? lawFault(text) : ordersFault(text));
+        int from = 0;
+        for (int i = 0; i < text.length(); i++) {
+            if (!Character.isLetter(text.charAt(i))) {
+                from = i + 1;
+                continue;
+            }
+            String ahead = text.substring(0, i);
+            String behind = text.substring(i + 1);
+            String[] wrong = {ahead + "x" + behind, ahead + Character.toUpperCase(text.charAt(i)) + behind, ahead + text.charAt(i) + "x" + behind};
+            for (String one : wrong) {
+                due(from, isLaw ? lawFault(one) : ordersFault(one));
+            }
+        }
+    }
+
+    private static void spelling() {
+        sentence("FAULT: the first TOKEN that can't go on there");
+        misspelt("costs tenant+key-reads*far/time%mood if not 1=2 and (1=1 or 2=2);bars", true);
+        misspelt("bars if [far]<key or reads>tenant and not mood=time;costs 1 if 1=1", true);
+        misspelt("read time+done+latest+cold 1+deep 2 by 0 times 2 if not 1=1 and 1=1 or 1=2;loop 1 to 2 by 1 times 1 if 1=2", false);
+        misspelt("drop done by time if 1=2;pass times 3 if latest=7;pass if cold 3=5;loop deep 0 to done by 3;read 1 by 1", false);
+        for (String name : new String[] {"lru", "mru", "fifo", "lfu", "min"}) {
+            for (int i = 0; i < name.length(); i++) {
+                due(0, policyFault(name.substring(0, i) + "x" + name.substring(i + 1)));
+                due(0, policyFault(name.substring(0, i) + name.substring(i + 1)));
+                due(0, policyFault(name.substring(0, i) + name.charAt(i) + name.substring(i)));
+            }
+        }
     }
 
     // BROKEN.
@@ -521,6 +573,10 @@ public final class TextsEdgesTest {
         due(3, Edges.orders(new MissCurves(), "read 5 by 0;read 5 by 0;pass if latest=1"));
         due(2, Edges.orders(new MissCurves(), "loop 0 to 31 by 0;pass if latest=32"));
         due(4, Edges.orders(new MissCurves(), "loop 0 to 3 by 0;drop 0 by 0;pass;pass if latest=4 and done=3"));
+        // Neither a drop (of place 3) nor a pass (COSTS are 2 then) tells it.
+        due(3, Edges.orders(new MissCurves(), "loop 0 to 3 by 0;drop 1 by 0;pass if latest=4"));
+        due(3, Edges.orders(new MissCurves(), "loop 0 to 3 by 0;pass;pass if latest=4"));
+        due(4, Edges.orders(new MissCurves(), "loop 0 to 3 by 0;read 1 by 0;drop 2 by 0;pass if latest=3"));
         due(2, Edges.orders(new MissCurves(), "pass;pass if latest=0-1"));
         MissCurves x = Edges.reads(0, 1, 1);
         due(0, Edges.orders(x, "pass if latest>0-1 or done>0"));
@@ -574,6 +630,7 @@ public final class TextsEdgesTest {
         parts();
         brackets();
         faults();
+        spelling();
         broken();
         onlyIfItMatters();
         laws();
