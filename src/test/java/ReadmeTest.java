@@ -127,11 +127,30 @@ public final class ReadmeTest {
 
     private static void everyCall(String page) throws IOException {
         List<String> rows = new ArrayList<>();
-        Matcher m = Pattern.compile("(?m)^\\| `(.*?)` \\|").matcher(page);
+        String document = Files.readString(DOCUMENT);
+        Matcher m = Pattern.compile("(?m)^\\| `(\\w+)(\\(.*?\\))` \\|.*\\|(.*)\\|$").matcher(page);
         while (m.find()) {
-            rows.add(m.group(1));
+            rows.add(m.group(1) + m.group(2));
+            Set<String> said = new TreeSet<>(List.of(m.group(3).trim().split(", ")));
+            said.remove("");
+            need(said.equals(elseOf(document, m.group(1))), m.group(1) + " is said to answer " + said + " else, not " + elseOf(document, m.group(1)));
         }
-        need(rows.equals(faceOf(Files.readString(DOCUMENT))), "the rows of calls are not those of the document's face: " + rows);
+        need(rows.equals(faceOf(document)), "the rows of calls are not those of the document's face: " + rows);
+    }
+
+    /** By what a call is REFUSED, and NONE, as its promise tells: NONE begins a sentence there or stands behind a colon. */
+    private static Set<String> elseOf(String document, String name) {
+        Set<String> codes = new TreeSet<>();
+        Matcher promise = Pattern.compile("## Promise \\d+: " + name + "\n\n`.*?`: (.*)").matcher(document);
+        if (promise.find()) {
+            // count() tells how many calls were REFUSED by these: it answers none of them itself.
+            String text = promise.group(1).replaceAll("REFUSED by -1(, -\\d)+", "");
+            Matcher m = Pattern.compile("(?:^|[.;] )(NONE)\\b|(?<![\\w.])(-\\d)").matcher(text);
+            while (m.find()) {
+                codes.add(m.group(1) == null ? m.group(2) : m.group(1));
+            }
+        }
+        return codes;
     }
 
     private static void everyTest(String page) throws IOException {
